@@ -140,7 +140,8 @@ public final class ShirtWash {
     }
 
     public int camp() throws IllegalArgumentException, UnsupportedOperationException {
-        boolean right = campReader.readCamp(camp, tape, useTape());
+        campReader.begin(camp, tape, useTape());
+        boolean right = campReader.readLines(MOST_CAMP_LINES);
         wrongByte = campReader.wrong;
         if (!right) {
             throw new IllegalArgumentException("the text is wrong");
@@ -155,7 +156,8 @@ public final class ShirtWash {
     }
 
     public int law() throws IllegalArgumentException {
-        boolean right = lawReader.readLaw(tape, useTape());
+        lawReader.begin(tape, useTape());
+        boolean right = lawReader.readLines(MOST_LAW_LINES);
         wrongByte = lawReader.wrong;
         if (!right) {
             throw new IllegalArgumentException("the text is wrong");
@@ -1044,7 +1046,8 @@ public final class ShirtWash {
 
         /** What stands here is the first wrong thing; of the end this is the text's length. */
         final boolean refuse() {
-            wrong = valueAt(tokens.begins, at);
+            int[] begins = tokens.begins;
+            wrong = at >= 0 && at < begins.length ? begins[at] : NONE;
             return false;
         }
 
@@ -1072,10 +1075,9 @@ public final class ShirtWash {
     private static final class CampReader extends Reader {
         private final Camp draft = new Camp();
 
-        private boolean readCamp(Camp camp, int[] text, int length) {
+        private void begin(Camp camp, int[] text, int length) {
             draft.become(camp);
             tokens.split(text, length);
-            return readLines(MOST_CAMP_LINES);
         }
 
         boolean readLine() {
@@ -1207,10 +1209,9 @@ public final class ShirtWash {
         private final int[] prices = new int[MOST_LAW_LINES];
         private int size = 0;
 
-        private boolean readLaw(int[] text, int length) {
+        private void begin(int[] text, int length) {
             size = 0;
             tokens.split(text, length);
-            return readLines(MOST_LAW_LINES);
         }
 
         private Law written() {
@@ -1677,7 +1678,7 @@ public final class ShirtWash {
                 Arrays.fill(next, 0);
                 for (int man = 0; man < camp.manCount; man++) {
                     if (man != absent) {
-                        wearNext(camp, man, tears);
+                        wearNext(camp, man, Math.min(tears, MOST_TEARS * (i + 1)));
                     }
                 }
                 System.arraycopy(next, 0, now, 0, now.length);

@@ -87,4 +87,57 @@ final class Desk {
         tape(wash, bytes);
         return wash.spies();
     }
+
+    /** All that the calls show of an object, but for the tape and fault(). */
+    static String all(ShirtWash wash) {
+        StringBuilder all = new StringBuilder();
+        for (int what = 0; what <= 13; what++) {
+            all.append(wash.count(what)).append(' ');
+        }
+        for (int shirt = 0; shirt < wash.count(1); shirt++) {
+            for (int what = 0; what <= 6; what++) {
+                all.append(wash.shirt(shirt, what)).append(' ');
+            }
+            for (int ago = 0; ago < 30; ago++) {
+                all.append(wash.ledger(ago, shirt)).append(' ');
+            }
+        }
+        for (int man = 0; man < wash.count(0); man++) {
+            for (int what = 0; what <= 5; what++) {
+                all.append(wash.man(man, what)).append(' ');
+            }
+            for (int shirt = 0; shirt < wash.count(1); shirt++) {
+                all.append(wash.barred(man, shirt)).append(wash.cost(man, shirt)).append(' ');
+            }
+        }
+        int seed = wash.seed(0);
+        wash.seed(seed);
+        return all.append(seed).toString();
+    }
+
+    /** The call throws just this, leaves all as it was, and no tape if it uses it up. */
+    void dueThrow(String what, String exception, ShirtWash wash, Supplier<Object> call) {
+        String before = all(wash);
+        due(what, "throws." + exception, call);
+        due(what + " changes nothing", before, () -> all(wash));
+    }
+
+    /** The bytes are on the tape; the call throws just this, uses them up, and changes nothing else. */
+    void dueThrowOf(String text, String what, String exception, ShirtWash wash, Supplier<Object> call) {
+        tape(wash, text);
+        dueThrow(what + " of '" + text + "'", exception, wash, call);
+        due(what + " uses the tape up", false, () -> wash.end(1));
+        wash.end(0);
+    }
+
+    /** The draws that come from a seed, by the document's words. */
+    static int[] draws(int seed, int many) {
+        int[] draws = new int[many];
+        long now = seed;
+        for (int i = 0; i < many; i++) {
+            now = (int) (now * 1103515245L + 12345L);
+            draws[i] = (int) (now >> 16 & 0x7fff);
+        }
+        return draws;
+    }
 }

@@ -16,12 +16,14 @@ public final class RandomRunsTest {
     private final Model model = new Model();
     private final List<String> told = new ArrayList<>();
     private final boolean large;
+    private final boolean wordy;
     private int men = 0;
     private int shirts = 0;
 
     private RandomRunsTest(long seed) {
         random = new Random(seed);
         large = random.nextInt(5) == 0;
+        wordy = random.nextInt(12) == 0;
     }
 
     public static void main(String[] args) {
@@ -49,7 +51,7 @@ public final class RandomRunsTest {
     }
 
     private void all() {
-        if (random.nextInt(10) > 0) campText(true);
+        for (int i = 0; i < 6 && (men < 3 || shirts < 3) && random.nextInt(20) > 0; i++) campText(true);
         for (int i = 0; i < CALLS; i++) {
             oneCall();
             if (random.nextInt(6) == 0) compareAll();
@@ -71,8 +73,8 @@ public final class RandomRunsTest {
 
     private void oneCall() {
         int kind = pick(100);
-        if (kind < 3) campText(false);
-        else if (kind < 6) lawText();
+        if (kind < (wordy ? 12 : 2)) campText(false);
+        else if (kind < (wordy ? 24 : 5)) lawText();
         else if (kind < 46) act();
         else if (kind < 64) handingCall();
         else if (kind < 80) tapeCall();
@@ -196,7 +198,9 @@ public final class RandomRunsTest {
             case 4: case 5: {
                 int k = pick(large ? 5 : 8);
                 int what = pick(4) - pick(20) / 19;
-                int tears = pick(5 * k + 3) - 1;
+                int sum = 0;
+                for (int i = 0; i < k && men > 0; i++) sum += model.man(pick(men), 2);
+                int tears = pick(4) == 0 ? pick(9 * k + 3) - 1 : sum;
                 same("tore(" + tears + ", " + k + ", " + what + ")", () -> wash.tore(tears, k, what), () -> model.tore(tears, k, what));
                 break;
             }
@@ -252,13 +256,13 @@ public final class RandomRunsTest {
     }
 
     private String gap() {
-        return pick(9) == 0 ? blanks() : " " + blanks();
+        return pick(120) == 0 ? blanks() : " " + blanks();
     }
 
     private String number(int most) {
-        int n = pick(40) == 0 ? most + 1 + pick(3) : pick(30) == 0 ? most : pick(most + 1);
+        int n = pick(400) == 0 ? most + 1 + pick(3) : pick(30) == 0 ? most : pick(most + 1);
         String digits = String.valueOf(n);
-        return pick(25) == 0 ? "0" + digits : pick(60) == 0 ? "00" + digits : digits;
+        return pick(25) == 0 ? "0" + digits : pick(400) == 0 ? "00" + digits : digits;
     }
 
     private String colour() {
@@ -266,7 +270,7 @@ public final class RandomRunsTest {
     }
 
     private String spoil(String text) {
-        if (pick(4) > 0 || text.isEmpty()) return text;
+        if (pick(5) > 0 || text.isEmpty()) return text;
         int at = pick(text.length());
         String signs = "; ()<>+a0zAif9\t\0\u00ff";
         char sign = signs.charAt(pick(signs.length()));
@@ -290,18 +294,19 @@ public final class RandomRunsTest {
         int many = first ? 4 + pick(8) : pick(6);
         for (int i = 0; i < many; i++) {
             int kind = pick(12);
-            if (kind < 4 && (men + count(lines, "man") < mostMen || pick(15) == 0)) {
+            if (kind < 4 && (men + count(lines, "man") < mostMen || pick(25) == 0)) {
                 lines.add("man" + gap() + number(large ? 30 : 9) + gap() + "squad" + gap() + number(9) + gap() + "tears" + gap() + number(9) + gap() + "wish " + colour());
-            } else if (kind < 9 && (shirts + count(lines, "shirt") < mostShirts || pick(15) == 0)) {
+            } else if (kind < 9 && (shirts + count(lines, "shirt") < mostShirts || pick(25) == 0)) {
                 lines.add("shirt " + colour() + gap() + "torn" + gap() + number(pick(9) == 0 ? 999 : 20) + gap() + "lice" + gap() + number(99) + gap() + "starch" + gap() + number(9));
             } else if (kind == 9) {
                 lines.add("near" + gap() + number(pick(9) == 0 ? 99 : 4));
             } else if (kind == 10) {
                 lines.add((pick(2) == 0 ? "rainy" : "runs") + gap() + number(100));
-            } else {
+            } else if (kind == 11) {
                 lines.add("wears" + gap() + pick(Math.max(1, men + count(lines, "man"))) + " " + pick(Math.max(1, shirts + count(lines, "shirt"))));
             }
         }
+        if (lines.size() > 0 && pick(40) == 0) while (lines.size() < 16) lines.add("near 1");
         String text = spoil(blanks() + String.join(blanks() + ";" + blanks(), lines) + blanks());
         tape(bytes(text));
         same("camp() of " + text, wash::camp, model::camp);
