@@ -214,6 +214,8 @@ public final class PromisesTest {
         wrongCamp(w, 12, "man 1 squad 10 tears 1 wish red");
         wrongCamp(w, 20, "man 1 squad 1 tears 10 wish red");
         wrongCamp(w, 27, "man 1 squad 1 tears 1 wish green");
+        wrongCamp(w, 27, "man 1 squad 1 tears 1 wish bar");
+        wrongCamp(w, 27, "man 1 squad 1 tears 1 wish wears");
         wrongCamp(w, 22, "man 1 squad 1 tears 1 wishred");
         wrongCamp(w, 27, "man 1 squad 1 tears 1 wish redd");
         wrongCamp(w, 31, "man 1 squad 1 tears 1 wish red 5");

@@ -63,12 +63,19 @@ public final class RandomRunsTest {
         return random.nextInt(most);
     }
 
+    /** Mostly the usual number, but now and then one far away. */
+    private int wild(int usual) {
+        if (pick(80) > 0) return usual;
+        int[] far = {Integer.MIN_VALUE, Integer.MIN_VALUE + 1, Integer.MAX_VALUE, Integer.MAX_VALUE - 1, 1 << 30, -1, random.nextInt()};
+        return far[pick(far.length)];
+    }
+
     private int aMan() {
-        return pick(12) == 0 ? pick(14) - 2 : men == 0 ? 0 : pick(men);
+        return wild(pick(12) == 0 ? pick(14) - 2 : men == 0 ? 0 : pick(men));
     }
 
     private int aShirt() {
-        return pick(12) == 0 ? pick(16) - 2 : shirts == 0 ? 0 : pick(shirts);
+        return wild(pick(12) == 0 ? pick(16) - 2 : shirts == 0 ? 0 : pick(shirts));
     }
 
     private void oneCall() {
@@ -101,7 +108,7 @@ public final class RandomRunsTest {
         int o = aShirt();
         switch (pick(9)) {
             case 0: {
-                int n = pick(5) == 0 ? pick(64) - 2 : 1 + pick(2);
+                int n = wild(pick(5) == 0 ? pick(64) - 2 : 1 + pick(2));
                 same("days(" + n + ")", () -> wash.days(n), () -> model.days(n));
                 break;
             }
@@ -179,7 +186,7 @@ public final class RandomRunsTest {
     private void lookCall() {
         int m = aMan();
         int h = aShirt();
-        int n = pick(110) - 4;
+        int n = wild(pick(110) - 4);
         switch (pick(8)) {
             case 0: same("lines(" + n + ")", () -> wash.lines(n), () -> model.lines(n)); break;
             case 1: {
@@ -188,30 +195,30 @@ public final class RandomRunsTest {
                 break;
             }
             case 2: {
-                int a = pick(5) - 1 - pick(20) / 19;
-                int b = pick(5) - 1;
-                int times = pick(11);
+                int a = wild(pick(5) - 1 - pick(20) / 19);
+                int b = wild(pick(5) - 1);
+                int times = wild(pick(11));
                 same("blue(" + a + ", " + b + ", " + times + ")", () -> wash.blue(a, b, times), () -> model.blue(a, b, times));
                 break;
             }
             case 3: same("trace(" + h + ")", () -> wash.trace(h), () -> model.trace(h)); break;
             case 4: case 5: {
                 int k = pick(large ? 5 : 8);
-                int what = pick(4) - pick(20) / 19;
+                int what = wild(pick(4) - pick(20) / 19);
                 int sum = 0;
                 for (int i = 0; i < k && men > 0; i++) sum += model.man(pick(men), 2);
-                int tears = pick(4) == 0 ? pick(9 * k + 3) - 1 : sum;
+                int tears = wild(pick(4) == 0 ? pick(9 * k + 3) - 1 : sum);
                 same("tore(" + tears + ", " + k + ", " + what + ")", () -> wash.tore(tears, k, what), () -> model.tore(tears, k, what));
                 break;
             }
             case 6: {
-                int what = pick(10) - 2;
+                int what = wild(pick(10) - 2);
                 same("man(" + m + ", " + what + ")", () -> wash.man(m, what), () -> model.man(m, what));
                 same("shirt(" + h + ", " + what + ")", () -> wash.shirt(h, what), () -> model.shirt(h, what));
                 break;
             }
             default: {
-                int ago = pick(40) - 3;
+                int ago = wild(pick(40) - 3);
                 same("ledger(" + ago + ", " + h + ")", () -> wash.ledger(ago, h), () -> model.ledger(ago, h));
                 same("barred(" + m + ", " + h + ")", () -> wash.barred(m, h), () -> model.barred(m, h));
                 same("cost(" + m + ", " + h + ")", () -> wash.cost(m, h), () -> model.cost(m, h));
@@ -225,7 +232,7 @@ public final class RandomRunsTest {
             int a = random.nextInt();
             same("feed(" + a + ", ..)", () -> wash.feed(a, a + 1, a + 2, a + 3, a + 4), () -> model.feed(a, a + 1, a + 2, a + 3, a + 4));
         }
-        int n = pick(460) - 30;
+        int n = wild(pick(460) - 30);
         same("end(" + n + ")", () -> wash.end(n), () -> model.end(n));
         switch (pick(6)) {
             case 0: same("camp()", wash::camp, model::camp); break;
@@ -375,7 +382,7 @@ public final class RandomRunsTest {
     private void compareAll() {
         int known = told.size();
         for (int what = -1; what <= 14; what++) {
-            int w = what;
+            int w = wild(what);
             same("count(" + w + ")", () -> wash.count(w), () -> model.count(w));
         }
         for (int m = 0; m < model.count(0); m++) {
