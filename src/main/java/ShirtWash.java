@@ -262,7 +262,7 @@ public final class ShirtWash {
         past.remember(camp);
         int changed = 0;
         for (int i = 0; i < hung; i++) {
-            if (takesColour(i, hung)) {
+            if (isStained(i, hung)) {
                 changed++;
             }
         }
@@ -545,13 +545,13 @@ public final class ShirtWash {
         return true;
     }
 
-    private boolean takesColour(int i, int hung) {
+    private boolean isStained(int i, int hung) {
         int shirt = shirtAt(i);
         if (camp.ofShirt(shirt, COLOUR) != WHITE) {
             return false;
         }
-        return i > 0 && camp.isStainedBy(shirt, shirtAt(i - 1))
-                || i + 1 < hung && camp.isStainedBy(shirt, shirtAt(i + 1));
+        return i > 0 && camp.takesColourOf(shirt, shirtAt(i - 1))
+                || i + 1 < hung && camp.takesColourOf(shirt, shirtAt(i + 1));
     }
 
     private int passed(int with) {
@@ -767,7 +767,7 @@ public final class ShirtWash {
             return darned;
         }
 
-        private boolean isStainedBy(int shirt, int beside) {
+        private boolean takesColourOf(int shirt, int beside) {
             int colour = ofShirt(beside, COLOUR);
             if (colour == WHITE || draw() % 100 >= runs) {
                 return false;
