@@ -58,6 +58,31 @@ final class Desk {
         return number;
     }
 
+    /** A new object that was told these texts of the camp. */
+    static ShirtWash wash(String... texts) {
+        ShirtWash wash = new ShirtWash();
+        for (String text : texts) {
+            camp(wash, text);
+        }
+        return wash;
+    }
+
+    static String men(int... places) {
+        StringBuilder text = new StringBuilder();
+        for (int place : places) {
+            text.append(text.length() == 0 ? "" : ";").append("man ").append(place).append(" squad 0 tears 1 wish white");
+        }
+        return text.toString();
+    }
+
+    static String shirts(int... starches) {
+        StringBuilder text = new StringBuilder();
+        for (int starch : starches) {
+            text.append(text.length() == 0 ? "" : ";").append("shirt white torn 0 lice 0 starch ").append(starch);
+        }
+        return text.toString();
+    }
+
     static int camp(ShirtWash wash, String text) {
         tape(wash, text);
         return wash.camp();
@@ -86,6 +111,11 @@ final class Desk {
         }
         tape(wash, bytes);
         return wash.spies();
+    }
+
+    static String buttons(ShirtWash wash, int shirt, int other) {
+        wash.buttons(shirt, other);
+        return "";
     }
 
     /** All that the calls show of an object, but for the tape and fault(). */

@@ -52,32 +52,8 @@ public final class PromisesTest {
         d.end();
     }
 
-    private static ShirtWash wash(String... texts) {
-        ShirtWash w = new ShirtWash();
-        for (String text : texts) {
-            Desk.camp(w, text);
-        }
-        return w;
-    }
-
     private static ShirtWash three() {
-        return wash(THREE_MEN, FOUR_SHIRTS);
-    }
-
-    private static String men(int... places) {
-        StringBuilder text = new StringBuilder();
-        for (int place : places) {
-            text.append(text.length() == 0 ? "" : ";").append("man ").append(place).append(" squad 0 tears 1 wish white");
-        }
-        return text.toString();
-    }
-
-    private static String shirts(int... starches) {
-        StringBuilder text = new StringBuilder();
-        for (int starch : starches) {
-            text.append(text.length() == 0 ? "" : ";").append("shirt white torn 0 lice 0 starch ").append(starch);
-        }
-        return text.toString();
+        return Desk.wash(THREE_MEN, FOUR_SHIRTS);
     }
 
     // ---- 1
@@ -118,12 +94,12 @@ public final class PromisesTest {
         d.due("end(380)", true, () -> w.end(380));
         d.due("feed to 400", 400, () -> w.feed(0, 0, 0, 0, 0));
 
-        ShirtWash x = wash(shirts(0, 0, 0, 0));
+        ShirtWash x = Desk.wash(Desk.shirts(0, 0, 0, 0));
         x.end(0);
         x.feed(0x61626364, 0, 0, 0, 0);
         x.end(4);
         d.due("the highest byte first", 0, x::hang);
-        ShirtWash y = wash("near 1");
+        ShirtWash y = Desk.wash("near 1");
         y.feed(0x6e656172, 0x20370000, 0, 0, 0);
         y.end(6);
         y.camp();
@@ -180,10 +156,10 @@ public final class PromisesTest {
         d.due("its fault", 5, w::fault);
         d.dueThrowOf("", "an eleventh empty text", "UnsupportedOperationException", w, w::camp);
 
-        ShirtWash x = wash(men(1, 2, 3, 4, 5, 6, 7, 8, 9, 10), shirts(0, 1, 2, 3, 4, 5, 6, 7, 8, 9), shirts(0, 0));
+        ShirtWash x = Desk.wash(Desk.men(1, 2, 3, 4, 5, 6, 7, 8, 9, 10), Desk.shirts(0, 1, 2, 3, 4, 5, 6, 7, 8, 9), Desk.shirts(0, 0));
         d.due("10 men", 10, () -> x.count(0));
         d.due("12 shirts", 12, () -> x.count(1));
-        ShirtWash y = wash(men(0, 1), shirts(0, 0));
+        ShirtWash y = Desk.wash(Desk.men(0, 1), Desk.shirts(0, 0));
         y.lot();
         d.due("an act", 1, () -> y.count(13));
         d.dueThrowOf("near", "a wrong text", ARGUMENT, y, y::camp);
@@ -199,7 +175,7 @@ public final class PromisesTest {
     }
 
     private static void campFaults() {
-        ShirtWash w = wash(THREE_MEN, FOUR_SHIRTS, "wears 0 0");
+        ShirtWash w = Desk.wash(THREE_MEN, FOUR_SHIRTS, "wears 0 0");
         wrongCamp(w, 0, "Man 1");
         wrongCamp(w, 0, "5");
         wrongCamp(w, 2, "  ;near 1");
@@ -245,7 +221,7 @@ public final class PromisesTest {
         wrongCamp(w, 98, "near 1" + ";near 1".repeat(13) + ";");
         wrongCamp(w, 98, "near 1" + ";near 1".repeat(13) + ";7");
 
-        ShirtWash x = wash(men(1, 2, 3, 4, 5, 6, 7, 8, 9), "man 1 squad 1 tears 1 wish red", shirts(0, 0, 0, 0, 0, 0, 0, 0, 0, 0), shirts(0, 0));
+        ShirtWash x = Desk.wash(Desk.men(1, 2, 3, 4, 5, 6, 7, 8, 9), "man 1 squad 1 tears 1 wish red", Desk.shirts(0, 0, 0, 0, 0, 0, 0, 0, 0, 0), Desk.shirts(0, 0));
         wrongCamp(x, 8, "near 1; man 100");
         wrongCamp(x, 7, "near 1;shirt none");
         d.due("a right text", 5, () -> Desk.camp(x, "wears 9 11"));
@@ -348,7 +324,7 @@ public final class PromisesTest {
     // ---- 7, 8
 
     private static void man() {
-        ShirtWash w = wash(THREE_MEN, FOUR_SHIRTS, "wears 1 3");
+        ShirtWash w = Desk.wash(THREE_MEN, FOUR_SHIRTS, "wears 1 3");
         int[][] due = {{0, 0, 2, 0, -1, 2}, {1, 3, 3, 1, 3, 1}, {5, 1, 0, 2, -1, 0}};
         for (int m = 0; m < due.length; m++) {
             for (int i = 0; i < due[m].length; i++) {
@@ -373,7 +349,7 @@ public final class PromisesTest {
     }
 
     private static void shirt() {
-        ShirtWash w = wash(THREE_MEN, FOUR_SHIRTS, "wears 1 3");
+        ShirtWash w = Desk.wash(THREE_MEN, FOUR_SHIRTS, "wears 1 3");
         int[][] due = {{0, 0, 9, 4, 0, -1, -1}, {1, 5, 0, 2, 1, -1, -1}, {2, 1, 3, 0, 2, -1, -1}, {0, 0, 7, 9, 3, 1, -1}};
         for (int h = 0; h < due.length; h++) {
             for (int i = 0; i < due[h].length; i++) {
@@ -404,7 +380,7 @@ public final class PromisesTest {
     }
 
     private static void barred() {
-        ShirtWash w = wash(THREE_MEN, FOUR_SHIRTS, "wears 1 3;wears 2 1");
+        ShirtWash w = Desk.wash(THREE_MEN, FOUR_SHIRTS, "wears 1 3;wears 2 1");
         d.due("no law, no last", false, () -> w.barred(0, 3));
         w.days(1);
         d.due("no law: neighbour", true, () -> w.barred(0, 3));
@@ -474,7 +450,7 @@ public final class PromisesTest {
     // ---- 11, 12
 
     private static void ledger() {
-        ShirtWash w = wash(men(0, 50), shirts(0, 0), "wears 0 0;wears 1 1");
+        ShirtWash w = Desk.wash(Desk.men(0, 50), Desk.shirts(0, 0), "wears 0 0;wears 1 1");
         w.days(1);
         w.give(0, 1);
         w.days(1);
@@ -495,12 +471,12 @@ public final class PromisesTest {
         d.due("it went", 0, () -> w.ledger(29, 1));
         w.days(1);
         d.due("all went", -1, () -> w.ledger(29, 1));
-        Desk.camp(w, shirts(0));
+        Desk.camp(w, Desk.shirts(0));
         d.due("a shirt that was not yet", -1, () -> w.ledger(0, 2));
     }
 
     private static void days() {
-        ShirtWash w = wash("man 0 squad 0 tears 9 wish red;man 1 squad 0 tears 2 wish red",
+        ShirtWash w = Desk.wash("man 0 squad 0 tears 9 wish red;man 1 squad 0 tears 2 wish red",
                 "shirt red torn 995 lice 97 starch 0;shirt blue torn 995 lice 95 starch 9;shirt blue torn 1 lice 2 starch 3;wears 0 0;wears 1 1");
         d.dueThrow("days(0)", ARGUMENT, w, () -> w.days(0));
         d.dueThrow("days(61)", ARGUMENT, w, () -> w.days(61));
@@ -522,14 +498,14 @@ public final class PromisesTest {
         d.due("last is told anew", -1, () -> w.shirt(0, 6));
         d.due("none is torn in the chest", 999 + 997 + 1, () -> w.count(11));
 
-        ShirtWash x = wash(men(0), shirts(5), "rainy 100;wears 0 0");
+        ShirtWash x = Desk.wash(Desk.men(0), Desk.shirts(5), "rainy 100;wears 0 0");
         d.due("it rains", 0, () -> x.days(7));
         d.due("nothing else", 0, () -> x.man(0, 4));
         d.due("starch stays", 5, () -> x.shirt(0, 3));
         d.due("but days", 7, () -> x.count(4));
         d.due("no washes", 0, () -> x.count(5));
         for (int rainy : new int[] {1, 30, 50, 99}) {
-            ShirtWash y = wash("rainy " + rainy);
+            ShirtWash y = Desk.wash("rainy " + rainy);
             y.seed(77);
             int dry = 0;
             for (int draw : Desk.draws(77, 60)) {
@@ -560,7 +536,7 @@ public final class PromisesTest {
     }
 
     private static void take() {
-        ShirtWash w = wash(THREE_MEN, FOUR_SHIRTS, "wears 2 3");
+        ShirtWash w = Desk.wash(THREE_MEN, FOUR_SHIRTS, "wears 2 3");
         d.dueThrow("he wears none", STATE, w, () -> w.take(0));
         d.dueThrow("no such man", INDEX, w, () -> w.take(3));
         d.dueThrow("no man -1", INDEX, w, () -> w.take(-1));
@@ -575,7 +551,7 @@ public final class PromisesTest {
     // ---- 15
 
     private static void hang() {
-        ShirtWash w = wash(THREE_MEN, FOUR_SHIRTS, "runs 100;wears 0 2");
+        ShirtWash w = Desk.wash(THREE_MEN, FOUR_SHIRTS, "runs 100;wears 0 2");
         d.dueThrowOf("e", "no such shirt", ARGUMENT, w, w::hang);
         d.dueThrowOf("`", "no such shirt", ARGUMENT, w, w::hang);
         d.dueThrowOf("aba", "twice", ARGUMENT, w, w::hang);
@@ -600,12 +576,12 @@ public final class PromisesTest {
         Desk.hang(w, "cab");
         d.due("and no more is drawn", Desk.draws(1, 1)[0], () -> w.seed(1) >>> 16 & 0x7fff);
 
-        ShirtWash x = wash(FOUR_SHIRTS, "runs 0");
+        ShirtWash x = Desk.wash(FOUR_SHIRTS, "runs 0");
         x.seed(1);
         d.due("runs 0", 0, () -> Desk.hang(x, "cab"));
         d.due("both are drawn", Desk.draws(1, 2)[1], () -> x.seed(1) >>> 16 & 0x7fff);
         for (int seed = 0; seed < 40; seed++) {
-            ShirtWash y = wash(FOUR_SHIRTS, "runs 30");
+            ShirtWash y = Desk.wash(FOUR_SHIRTS, "runs 30");
             y.seed(seed);
             int[] draws = Desk.draws(seed, 2);
             int want = draws[0] % 100 < 30 ? 2 : draws[1] % 100 < 30 ? 1 : 0;
@@ -617,7 +593,7 @@ public final class PromisesTest {
     // ---- 16, 17
 
     private static void truce() {
-        ShirtWash w = wash(men(0), "shirt red torn 999 lice 0 starch 0;shirt red torn 2 lice 0 starch 0;shirt red torn 0 lice 0 starch 0;shirt red torn 50 lice 0 starch 0;wears 0 3");
+        ShirtWash w = Desk.wash(Desk.men(0), "shirt red torn 999 lice 0 starch 0;shirt red torn 2 lice 0 starch 0;shirt red torn 0 lice 0 starch 0;shirt red torn 50 lice 0 starch 0;wears 0 3");
         for (int seed = 0; seed < 20; seed++) {
             w.seed(seed);
             int[] draws = Desk.draws(seed, 4);
@@ -633,7 +609,7 @@ public final class PromisesTest {
     }
 
     private static void buttons() {
-        ShirtWash w = wash(THREE_MEN, FOUR_SHIRTS, "wears 0 0");
+        ShirtWash w = Desk.wash(THREE_MEN, FOUR_SHIRTS, "wears 0 0");
         w.buttons(0, 3);
         d.due("0 has 3", 3, () -> w.shirt(0, 4));
         d.due("3 has 0", 0, () -> w.shirt(3, 4));
@@ -641,16 +617,11 @@ public final class PromisesTest {
         d.due("3 has 1", 1, () -> w.shirt(3, 4));
         d.due("1 has 0", 0, () -> w.shirt(1, 4));
         d.due("2 has 2", 2, () -> w.shirt(2, 4));
-        d.dueThrow("one twice", ARGUMENT, w, () -> changed(w, 1, 1));
-        d.dueThrow("no such shirt", INDEX, w, () -> changed(w, 4, 4));
-        d.dueThrow("no such other", INDEX, w, () -> changed(w, 0, 4));
-        d.dueThrow("no shirt -1", INDEX, w, () -> changed(w, -1, 0));
+        d.dueThrow("one twice", ARGUMENT, w, () -> Desk.buttons(w, 1, 1));
+        d.dueThrow("no such shirt", INDEX, w, () -> Desk.buttons(w, 4, 4));
+        d.dueThrow("no such other", INDEX, w, () -> Desk.buttons(w, 0, 4));
+        d.dueThrow("no shirt -1", INDEX, w, () -> Desk.buttons(w, -1, 0));
         d.due("2 acts", 2, () -> w.count(13));
-    }
-
-    private static String changed(ShirtWash w, int shirt, int other) {
-        w.buttons(shirt, other);
-        return "";
     }
 
     // ---- 18 to 22
@@ -665,11 +636,11 @@ public final class PromisesTest {
         Desk.law(w, "bar if place > 4");
         d.due("man 2 gets none", 0, w::ways);
         w.take(1);
-        ShirtWash all = wash(men(1, 2, 3, 4, 5, 6, 7, 8, 9), men(10), shirts(0, 0, 0, 0, 0, 0, 0, 0, 0, 0), shirts(0, 0));
+        ShirtWash all = Desk.wash(Desk.men(1, 2, 3, 4, 5, 6, 7, 8, 9), Desk.men(10), Desk.shirts(0, 0, 0, 0, 0, 0, 0, 0, 0, 0), Desk.shirts(0, 0));
         d.due("10 of 12", 239500800, all::ways);
-        ShirtWash few = wash(men(1, 2, 3), shirts(0, 0));
+        ShirtWash few = Desk.wash(Desk.men(1, 2, 3), Desk.shirts(0, 0));
         d.due("more men than shirts", 0, few::ways);
-        ShirtWash dressed = wash(men(1), shirts(0), "wears 0 0");
+        ShirtWash dressed = Desk.wash(Desk.men(1), Desk.shirts(0), "wears 0 0");
         d.due("all wear one", 1, dressed::ways);
         d.due("no act", 0, () -> all.count(13));
     }
@@ -715,7 +686,7 @@ public final class PromisesTest {
         d.due("of those who wear none", 2 * 12 * 999, w::least);
         Desk.law(w, "bar if place > 4");
         d.due("none", -1, w::least);
-        ShirtWash dressed = wash(men(1), shirts(0), "wears 0 0");
+        ShirtWash dressed = Desk.wash(Desk.men(1), Desk.shirts(0), "wears 0 0");
         d.due("all wear one", 0, dressed::least);
     }
 
@@ -735,9 +706,9 @@ public final class PromisesTest {
         w.give(1, 0);
         Desk.law(w, "bar if button > 0");
         d.due("those who wear none", 1, w::lack);
-        ShirtWash few = wash(men(1, 2, 3), shirts(0, 0));
+        ShirtWash few = Desk.wash(Desk.men(1, 2, 3), Desk.shirts(0, 0));
         d.due("all three", 7, few::lack);
-        ShirtWash bare = wash(men(1, 2, 3));
+        ShirtWash bare = Desk.wash(Desk.men(1, 2, 3));
         d.due("no shirt at all", 1, bare::lack);
     }
 
@@ -771,7 +742,7 @@ public final class PromisesTest {
     // ---- 23
 
     private static void lot() {
-        ShirtWash w = wash(THREE_MEN, FOUR_SHIRTS, "wears 1 2");
+        ShirtWash w = Desk.wash(THREE_MEN, FOUR_SHIRTS, "wears 1 2");
         for (int seed = 0; seed < 20; seed++) {
             w.seed(seed);
             int[] draws = Desk.draws(seed, 2);
@@ -799,7 +770,7 @@ public final class PromisesTest {
     // ---- 24
 
     private static void home() {
-        ShirtWash w = wash(men(0, 10, 20, 30, 31));
+        ShirtWash w = Desk.wash(Desk.men(0, 10, 20, 30, 31));
         d.due("with him", 0, () -> Desk.home(w, "12340", 2, 2));
         d.due("his neighbour", 0, () -> Desk.home(w, "12340", 3, 4));
         d.due("one wash", 1, () -> Desk.home(w, "12340", 0, 1));
@@ -818,7 +789,7 @@ public final class PromisesTest {
         Desk.camp(w, "near 10");
         d.due("a pass a time", 1, () -> Desk.home(w, "01234", 0, 2));
         d.due("two and one", 2, () -> Desk.home(w, "01234", 0, 3));
-        ShirtWash ten = wash(men(0, 10, 20, 30, 40), men(50, 60, 70, 80, 90));
+        ShirtWash ten = Desk.wash(Desk.men(0, 10, 20, 30, 40), Desk.men(50, 60, 70, 80, 90));
         d.due("9 washes round", 9, () -> Desk.home(ten, "1234567890", 0, 9));
         // rounds of 2, 3 and 5 men, and nobody to pass it to
         d.due("never in another round", -1, () -> Desk.home(ten, "1034267895", 0, 9));
@@ -834,7 +805,7 @@ public final class PromisesTest {
     }
 
     private static void tore() {
-        ShirtWash w = wash("man 0 squad 0 tears 2 wish red;man 1 squad 0 tears 3 wish red;man 5 squad 0 tears 0 wish red;man 9 squad 0 tears 2 wish red");
+        ShirtWash w = Desk.wash("man 0 squad 0 tears 2 wish red;man 1 squad 0 tears 3 wish red;man 5 squad 0 tears 0 wish red;man 9 squad 0 tears 2 wish red");
         tores(w, 3, 1, 1, 2, 2);
         tores(w, 2, 1, 2, 0, 9);
         tores(w, 1, 1, 0, 0, 0);
@@ -855,7 +826,7 @@ public final class PromisesTest {
         d.dueThrow("tears -1", ARGUMENT, w, () -> w.tore(-1, 1, 0));
         d.dueThrow("k 0", ARGUMENT, w, () -> w.tore(1, 0, 0));
         d.dueThrow("k 7", ARGUMENT, w, () -> w.tore(1, 7, 0));
-        ShirtWash nines = wash(("man 0 squad 0 tears 9 wish red;man 2 squad 0 tears 9 wish red;man 4 squad 0 tears 9 wish red;man 6 squad 0 tears 9 wish red;man 8 squad 0 tears 9 wish red"),
+        ShirtWash nines = Desk.wash(("man 0 squad 0 tears 9 wish red;man 2 squad 0 tears 9 wish red;man 4 squad 0 tears 9 wish red;man 6 squad 0 tears 9 wish red;man 8 squad 0 tears 9 wish red"),
                 ("man 10 squad 0 tears 9 wish red;man 12 squad 0 tears 9 wish red;man 14 squad 0 tears 9 wish red;man 16 squad 0 tears 9 wish red;man 18 squad 0 tears 9 wish red"));
         tores(nines, 54, 6, 590490, 0, 1023);
         tores(nines, 53, 6, 0, 0, 0);
@@ -865,7 +836,7 @@ public final class PromisesTest {
     // ---- 26
 
     private static void spies() {
-        ShirtWash w = wash(men(0, 10, 20), shirts(0, 0, 0), "wears 0 0;wears 1 1;wears 2 2");
+        ShirtWash w = Desk.wash(Desk.men(0, 10, 20), Desk.shirts(0, 0, 0), "wears 0 0;wears 1 1;wears 2 2");
         w.days(1);
         w.give(0, 1);
         w.give(1, 2);
@@ -888,7 +859,7 @@ public final class PromisesTest {
         w.days(60);
         d.due("30 washes", 0, () -> Desk.spies(w, new int[30]));
         d.dueThrow("31 washes", ARGUMENT, w, () -> Desk.spies(w, new int[31]));
-        ShirtWash many = wash(men(0), shirts(0, 0, 0, 0, 0, 0, 0, 0, 0, 0), shirts(0, 0), "wears 0 11");
+        ShirtWash many = Desk.wash(Desk.men(0), Desk.shirts(0, 0, 0, 0, 0, 0, 0, 0, 0, 0), Desk.shirts(0, 0), "wears 0 11");
         many.days(1);
         d.due("the highest first", 1, () -> Desk.spies(many, 0x800));
         d.due("its other bits", 0, () -> Desk.spies(many, 0x7ff));
@@ -897,7 +868,7 @@ public final class PromisesTest {
     // ---- 27
 
     private static void lines() {
-        ShirtWash w = wash(men(0), shirts(3, 3, 5, 5, 1));
+        ShirtWash w = Desk.wash(Desk.men(0), Desk.shirts(3, 3, 5, 5, 1));
         d.due("4 4 6 6 2 on 11: 4+6, 4+6, 2", 3, () -> w.lines(11));
         d.due("on 12: 6+6, 4+4+2", 2, () -> w.lines(12));
         d.due("on 10: 4+6, 4+6, 2", 3, () -> w.lines(10));
@@ -913,20 +884,20 @@ public final class PromisesTest {
         d.dueThrow("length 0", ARGUMENT, w, () -> w.lines(0));
         d.dueThrow("length 100", ARGUMENT, w, () -> w.lines(100));
         d.dueThrow("length -1", ARGUMENT, w, () -> w.lines(-1));
-        ShirtWash all = wash(shirts(9, 9, 9, 9, 9, 9, 9, 9, 9, 9), shirts(9, 9));
+        ShirtWash all = Desk.wash(Desk.shirts(9, 9, 9, 9, 9, 9, 9, 9, 9, 9), Desk.shirts(9, 9));
         d.due("12 of 10 on 99", 2, () -> all.lines(99));
         d.due("12 of 10 on 10", 12, () -> all.lines(10));
         d.due("12 of 10 on 9", -1, () -> all.lines(9));
-        ShirtWash tight = wash(shirts(5, 5, 5, 2, 2, 2, 1, 1, 1));
+        ShirtWash tight = Desk.wash(Desk.shirts(5, 5, 5, 2, 2, 2, 1, 1, 1));
         d.due("6 3 2 three times on 11", 3, () -> tight.lines(11));
-        ShirtWash none = wash(men(0), shirts(4), "wears 0 0");
+        ShirtWash none = Desk.wash(Desk.men(0), Desk.shirts(4), "wears 0 0");
         d.due("an empty chest", 0, () -> none.lines(1));
     }
 
     // ---- 28
 
     private static void blue() {
-        ShirtWash w = wash("runs 33");
+        ShirtWash w = Desk.wash("runs 33");
         d.due("one, once", 670000000, () -> w.blue(1, -1, 1));
         d.due("red is none the less", 670000000, () -> w.blue(0, 2, 1));
         d.due("two, once", 448900000, () -> w.blue(2, 1, 1));
@@ -936,8 +907,8 @@ public final class PromisesTest {
             odds = odds * 67 / 100;
         }
         d.due("two, 9 times", odds, () -> w.blue(1, 1, 9));
-        d.due("runs 100", 0, () -> wash("runs 100").blue(1, -1, 1));
-        d.due("runs 0", 1000000000, () -> wash("runs 0").blue(1, 2, 9));
+        d.due("runs 100", 0, () -> Desk.wash("runs 100").blue(1, -1, 1));
+        d.due("runs 0", 1000000000, () -> Desk.wash("runs 0").blue(1, 2, 9));
         d.due("at first", 500000000, () -> new ShirtWash().blue(1, -1, 1));
         d.dueThrow("n 0", ARGUMENT, w, () -> w.blue(1, 1, 0));
         d.dueThrow("n 10", ARGUMENT, w, () -> w.blue(1, 1, 10));
@@ -950,7 +921,7 @@ public final class PromisesTest {
     // ---- 29
 
     private static void trace() {
-        ShirtWash w = wash(men(0, 10, 20), shirts(0, 0), "wears 0 0");
+        ShirtWash w = Desk.wash(Desk.men(0, 10, 20), Desk.shirts(0, 0), "wears 0 0");
         d.due("no wash yet", 0, () -> w.trace(0));
         w.days(1);
         w.give(1, 0);
@@ -1030,7 +1001,7 @@ public final class PromisesTest {
     }
 
     private static void undoneByEachAct() {
-        ShirtWash w = wash(THREE_MEN, FOUR_SHIRTS, "wears 0 0;runs 100;rainy 40");
+        ShirtWash w = Desk.wash(THREE_MEN, FOUR_SHIRTS, "wears 0 0;runs 100;rainy 40");
         Desk.law(w, "bar if same;cost 2 if wished");
         undoes("days", w, () -> w.days(9));
         undoes("give", w, () -> w.give(1, 3));
@@ -1094,7 +1065,7 @@ public final class PromisesTest {
     // ---- 34
 
     private static void count() {
-        ShirtWash w = wash(THREE_MEN, FOUR_SHIRTS, "wears 1 1;near 4;rainy 5;runs 6");
+        ShirtWash w = Desk.wash(THREE_MEN, FOUR_SHIRTS, "wears 1 1;near 4;rainy 5;runs 6");
         Desk.law(w, "bar;bar");
         w.seed(1);
         w.days(10);
