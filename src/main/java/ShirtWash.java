@@ -1084,9 +1084,9 @@ public final class ShirtWash {
             switch (kind()) {
                 case WORD_MAN: return readMan();
                 case WORD_SHIRT: return readShirt();
-                case WORD_NEAR: return readNear();
-                case WORD_RAINY: return readRainy();
-                case WORD_RUNS: return readRuns();
+                case WORD_NEAR: return readSetting(WORD_NEAR, MOST_NEAR);
+                case WORD_RAINY: return readSetting(WORD_RAINY, MOST_CHANCE);
+                case WORD_RUNS: return readSetting(WORD_RUNS, MOST_CHANCE);
                 case WORD_WEARS: return readWears();
                 default: return refuse();
             }
@@ -1140,30 +1140,22 @@ public final class ShirtWash {
             return true;
         }
 
-        private boolean readNear() {
-            int near = numberBehind(WORD_NEAR, MOST_NEAR);
-            if (near == NONE) {
+        private boolean readSetting(int word, int most) {
+            int setting = numberBehind(word, most);
+            if (setting == NONE) {
                 return false;
             }
-            draft.near = near;
-            return true;
-        }
-
-        private boolean readRainy() {
-            int rainy = numberBehind(WORD_RAINY, MOST_CHANCE);
-            if (rainy == NONE) {
-                return false;
+            switch (word) {
+                case WORD_NEAR:
+                    draft.near = setting;
+                    break;
+                case WORD_RAINY:
+                    draft.rainy = setting;
+                    break;
+                default:
+                    draft.runs = setting;
+                    break;
             }
-            draft.rainy = rainy;
-            return true;
-        }
-
-        private boolean readRuns() {
-            int runs = numberBehind(WORD_RUNS, MOST_CHANCE);
-            if (runs == NONE) {
-                return false;
-            }
-            draft.runs = runs;
             return true;
         }
 
