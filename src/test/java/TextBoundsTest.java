@@ -30,6 +30,7 @@ public final class TextBoundsTest {
         emptyTexts();
         fullTapes();
         textsThatEndTooSoon();
+        signsThatCannotStandThere();
         theFirstOfSeveralWrongThings();
         lawInPlaceOfTheOneBefore();
         longSums();
@@ -458,6 +459,28 @@ public final class TextBoundsTest {
                 wrongLaw(w, text.length() + 1, text + " ");
                 wrongLaw(w, text.length(), text + ";bar");
             }
+        }
+    }
+
+    private static void signsThatCannotStandThere() {
+        ShirtWash w = Desk.wash(MAN, SHIRT);
+        for (String behindASum : "; ) = - ( not or and same 7 if".split(" ")) {
+            wrongLaw(w, 9, "bar if 1 " + behindASum + " 2");
+        }
+        for (String forAnAtom : "; ) < > + or and if bar".split(" ")) {
+            wrongLaw(w, 7, "bar if " + forAnAtom + " 1 < 2");
+        }
+        for (String forAPart : "; ) < > + or and same if bar not (".split(" ")) {
+            wrongLaw(w, 11, "bar if 1 < " + forAPart);
+        }
+        for (String forAClose : "; ( < > + not same 7 if bar".split(" ")) {
+            wrongLaw(w, 13, "bar if (same " + forAClose);
+        }
+        for (String behindAnAtom : ") ( < > + not same 7 if bar".split(" ")) {
+            wrongLaw(w, 12, "bar if same " + behindAnAtom + " same");
+        }
+        for (String behindALine : "( ) < > + , 7 near".split(" ")) {
+            wrong(w, 7, "near 1 " + behindALine + " near 2");
         }
     }
 
