@@ -749,9 +749,14 @@ public final class ShirtWash {
                     undress(shirt);
                 }
             }
-            System.arraycopy(rows, 0, rows, 1, rows.length - 1);
-            rows[0] = row;
+            putRow(row);
             washes++;
+        }
+
+        private void putRow(long row) {
+            for (int ago = rows.length - 1; ago >= 0; ago--) {
+                rows[ago] = ago > 0 ? rows[ago - 1] : row;
+            }
         }
 
         private void wear(int shirt, int tears) {
@@ -890,6 +895,9 @@ public final class ShirtWash {
 
         private void remember(Camp now) {
             newest = newest + 1 < kept.length ? newest + 1 : 0;
+            if (newest < 0 || newest >= kept.length) {
+                return;
+            }
             // made when first needed: most objects remember few acts
             if (kept[newest] == null) {
                 kept[newest] = new Camp();
@@ -1357,7 +1365,10 @@ public final class ShirtWash {
         }
 
         private void tell(int word, int value) {
-            setAt(facts, word - WORD_MAN, value);
+            int i = word - WORD_MAN;
+            if (i >= 0 && i < facts.length) {
+                facts[i] = value;
+            }
         }
 
         private void tellWhether(int word, boolean holds) {
@@ -1484,7 +1495,7 @@ public final class ShirtWash {
             for (int gone = Math.min(1 << chestCount, table.length) - 1; gone >= 0; gone--) {
                 table[gone] = waysFrom(gone);
             }
-            return table[0];
+            return valueOf(0);
         }
 
         private long waysFrom(int gone) {
@@ -1525,7 +1536,7 @@ public final class ShirtWash {
             for (int gone = Math.min(1 << chestCount, table.length) - 1; gone >= 0; gone--) {
                 table[gone] = leastFrom(gone, cheapest);
             }
-            return table[0];
+            return valueOf(0);
         }
 
         private int leastPrice() {
@@ -1616,7 +1627,7 @@ public final class ShirtWash {
                 return NONE;
             }
             // no line yet: as if a line 0 were full
-            table[0] = length;
+            setAt(table, 0, length);
             for (int hung = 1; hung < sets; hung++) {
                 table[hung] = bestOf(hung, length);
             }
@@ -1639,7 +1650,7 @@ public final class ShirtWash {
         }
 
         private int bestOf(int hung, int length) {
-            int best = Integer.MAX_VALUE;
+            int best = (MOST_SHIRTS + 1) * LINE;
             for (int i = 0; i < many; i++) {
                 if ((hung >> i & 1) != 0) {
                     best = Math.min(best, behind(hung ^ 1 << i, valueAt(sizes, i), length));

@@ -91,6 +91,13 @@ public final class LanguageTest {
             String name = imports.group(1);
             d.due("import " + name, true, () -> name.equals("java.util.Arrays") || name.equals("java.util.NoSuchElementException"));
         }
+        Matcher library = Pattern.compile("\\b(Integer|Long|Math|Arrays|System|String)\\.\\w+.").matcher(code);
+        while (library.find()) {
+            String call = library.group();
+            d.due("the library's " + call, true, () -> call.matches(
+                    "(Integer\\.bitCount|Math\\.(abs|max|min)|Arrays\\.(copyOf|fill)|System\\.arraycopy)\\("));
+        }
+        d.due("no index that is not looked at", false, () -> Pattern.compile("\\w\\[\\d+\\]").matcher(code).find());
         Matcher thrown = Pattern.compile("throw ([^;]*);").matcher(code);
         while (thrown.find()) {
             String what = thrown.group(1);
